@@ -131,6 +131,7 @@ public final class PromisesTest {
         due("drops(least)", n.drops(LEAST), BAD);
         due("drops(most)", n.drops(MOST), BAD);
         due("drops refused leaves no state", n.told(5), 1);
+        due("drops wrong: how often", n.told(0), 5);
         due("drops(1)", n.drops(1), 3);
         dueLines("behind drops(1)", n, "a=b;c=d;d=e;");
         due("drops(2)", n.drops(2), 2);
