@@ -2,26 +2,35 @@
 final class Check {
     private static int passed;
     private static int failed;
+    private static String heading = "";
 
     private Check() {
     }
 
+    /** What is printed ahead of each wrong answer from here on. */
+    static void under(String words) {
+        heading = words;
+    }
+
     static void due(String call, long got, long want) {
-        if (got == want) {
-            passed++;
-        } else {
-            failed++;
-            System.out.println(call + " answered " + got + ", due is " + want);
-        }
+        judge(got == want, call, String.valueOf(got), String.valueOf(want));
     }
 
     static void due(String call, String got, String want) {
-        if (got.equals(want)) {
+        judge(got.equals(want), call, "'" + got + "'", "'" + want + "'");
+    }
+
+    private static void judge(boolean asDue, String call, String got, String want) {
+        if (asDue) {
             passed++;
         } else {
             failed++;
-            System.out.println(call + " answered '" + got + "', due is '" + want + "'");
+            System.out.println(heading + call + " answered " + got + ", due is " + want);
         }
+    }
+
+    static int made() {
+        return passed + failed;
     }
 
     static boolean anyWrong() {

@@ -1,9 +1,5 @@
 /** A method for each promise of the document: ordinary inputs, the edges it names, wrong inputs. */
-public final class PromisesTest {
-    private static final int NONE = -1, BAD = -2, NO = -3, FULL = -4;
-    private static final int LEAST = Integer.MIN_VALUE, MOST = Integer.MAX_VALUE;
-    private static final int A = 0, B = 1, C = 2, D = 3, E = 4, F = 5, G = 6, H = 7, J = 9;
-
+public final class PromisesTest extends Helpers {
     public static void main(String[] args) {
         promise1NewObject();
         promise2Line();
@@ -29,52 +25,6 @@ public final class PromisesTest {
         promise21Told();
         promise22Digest();
         Check.end("PromisesTest");
-    }
-
-    private static void due(String call, long got, long want) {
-        Check.due(call, got, want);
-    }
-
-    /** The names of a word, as bits. */
-    private static int bits(String names) {
-        int set = 0;
-        for (int k = 0; k < names.length(); k++) {
-            set |= 1 << (names.charAt(k) - 'a');
-        }
-        return set;
-    }
-
-    private static void type(JoinedNames n, String text) {
-        for (int k = 0; k < text.length(); k++) {
-            n.type(text.charAt(k));
-        }
-    }
-
-    private static int reads(JoinedNames n, String text) {
-        n.clear();
-        type(n, text);
-        return n.reads();
-    }
-
-    private static JoinedNames lines(String text) {
-        JoinedNames n = new JoinedNames();
-        int answer = reads(n, text);
-        if (answer < 0) {
-            due("reads() of " + text, answer, 0);
-        }
-        return n;
-    }
-
-    private static String shown(JoinedNames n) {
-        StringBuilder b = new StringBuilder();
-        for (int k = 0; k < n.shown(NONE); k++) {
-            b.append((char) n.shown(k));
-        }
-        return b.toString();
-    }
-
-    private static void dueLines(String where, JoinedNames n, String want) {
-        Check.due("lines " + where, shown(n), want);
     }
 
     private static void promise1NewObject() {
@@ -617,9 +567,9 @@ public final class PromisesTest {
     }
 
     private static void promise22Digest() {
-        due("digest of a new object", new JoinedNames().digest(), digestOf(new JoinedNames()));
+        due("digest of a new object", new JoinedNames().digest(), mixed(partsOf(new JoinedNames())));
         JoinedNames n = lines("a=&b;a=&c;b=&d;e=*a;*e=f;f=&g;*j=a;");
-        due("digest", n.digest(), digestOf(n));
+        due("digest", n.digest(), mixed(partsOf(n)));
         n.fine(10);
         n.back();
         n.back();
@@ -627,32 +577,9 @@ public final class PromisesTest {
         for (int i = 6; i < 15; i++) {
             n.line(0, i % 10, (3 * i) % 10);
         }
-        due("digest of 14", n.digest(), digestOf(n));
-        due("digest again", n.digest(), digestOf(n));
+        due("digest of 14", n.digest(), mixed(partsOf(n)));
+        due("digest again", n.digest(), mixed(partsOf(n)));
         n.count(9);
-        due("digest counts refusals", n.digest(), digestOf(n));
-    }
-
-    private static long digestOf(JoinedNames n) {
-        long h = 2531;
-        for (int what = 0; what < 6; what++) {
-            h = 31 * h + n.told(what);
-        }
-        int size = n.told(4);
-        for (int i = 0; i < size; i++) {
-            for (int what = 0; what < 5; what++) {
-                h = 31 * h + n.of(i, what);
-            }
-        }
-        for (int x = 0; x < 10; x++) {
-            int[] row = {n.fine(x), n.coarse(x), n.group(x, 1), n.group(x, 2), n.points(2, x), n.seen(2, x)};
-            for (int v : row) {
-                h = 31 * h + v;
-            }
-        }
-        for (int what = 0; what < 5; what++) {
-            h = 31 * h + n.count(what);
-        }
-        return 31 * h + n.misses(2);
+        due("digest counts refusals", n.digest(), mixed(partsOf(n)));
     }
 }
