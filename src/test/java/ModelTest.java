@@ -4,6 +4,8 @@ import java.util.Random;
 public final class ModelTest {
     private static final int RUNS = 400;
     private static final int CALLS = 512;
+    private static final int MOST_OF_A_STEP = 3;
+    private static final int MOST_OF_A_TEXT = 100;
     private static final int[] ODD = {Integer.MIN_VALUE, -3, -2, -1, 10, 14, 128, Integer.MAX_VALUE};
 
     private final Random random;
@@ -11,6 +13,7 @@ public final class ModelTest {
     private final Model model = new Model();
     private final int names;
     private final String where;
+    private int calls;
 
     private ModelTest(int run) {
         random = new Random(run);
@@ -26,10 +29,11 @@ public final class ModelTest {
         Check.end("ModelTest");
     }
 
+    /** No object is asked more often than the document tells; the last call is a digest. */
     private void play() {
-        for (int call = 0; call < CALLS && !Check.anyWrong(); call++) {
-            if (random.nextInt(60) == 0) {
-                call += typeText();
+        while (calls + MOST_OF_A_STEP < CALLS && !Check.anyWrong()) {
+            if (calls + MOST_OF_A_TEXT < CALLS && random.nextInt(60) == 0) {
+                typeText();
             } else {
                 step(random.nextInt(24));
             }
@@ -38,6 +42,7 @@ public final class ModelTest {
     }
 
     private void due(String call, long got, long want) {
+        calls++;
         Check.due(where + "[" + model.written() + "] " + call, got, want);
     }
 
@@ -104,8 +109,8 @@ public final class ModelTest {
         }
     }
 
-    /** A text of some lines, often with a byte that does not fit; how many calls that took. */
-    private int typeText() {
+    /** A text of some lines, often with a byte that does not fit. */
+    private void typeText() {
         String text = someText();
         if (random.nextInt(8) != 0) {
             due("clear", real.clear(), model.clear());
@@ -114,7 +119,6 @@ public final class ModelTest {
             typeOne(text.charAt(k));
         }
         due("reads '" + text + "'", real.reads(), model.reads());
-        return text.length() + 2;
     }
 
     private String someText() {

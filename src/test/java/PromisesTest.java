@@ -577,8 +577,9 @@ public final class PromisesTest extends Helpers {
         for (int i = 6; i < 15; i++) {
             n.line(0, i % 10, (3 * i) % 10);
         }
-        due("digest of 14", n.digest(), mixed(partsOf(n)));
-        due("digest again", n.digest(), mixed(partsOf(n)));
+        long fourteen = mixed(partsOf(n));
+        due("digest of 14", n.digest(), fourteen);
+        due("digest again", n.digest(), fourteen);
         n.count(9);
         due("digest counts refusals", n.digest(), mixed(partsOf(n)));
     }
