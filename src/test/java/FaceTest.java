@@ -5,8 +5,11 @@ import java.lang.reflect.Method;
 import java.lang.reflect.Modifier;
 import java.nio.file.Files;
 import java.nio.file.Path;
+import java.util.ArrayList;
 import java.util.Arrays;
+import java.util.List;
 import java.util.TreeSet;
+import java.util.regex.Matcher;
 import java.util.regex.Pattern;
 
 /** The public face of the document, and what can be seen of LANGUAGE.md without reading the logic. */
@@ -19,13 +22,21 @@ public final class FaceTest {
         "int shown(int)", "int back()", "int told(int)", "long digest()"};
     private static final String[] FORBIDDEN = {
         "\\bthrow\\b", "\\btry\\b", "\\bcatch\\b", "\\bsynchronized\\b", "\\bassert\\b", "->", "::",
-        "\\bpackage\\b", "\\bprotected\\b", "\\bthrows\\b", "Exact\\b"};
+        "\\bpackage\\b", "\\bprotected\\b", "\\bthrows\\b", "Exact\\b", "\\bstatic \\{"};
+    private static final String[] LIBRARY = {
+        "Arrays.fill", "Integer.bitCount", "Math.max", "Math.min", "System.arraycopy"};
+    private static final int MOST_PARAMETERS = 7;
 
     public static void main(String[] args) throws IOException {
         face();
         members();
         namesInside();
-        words();
+        String source = Files.readString(Path.of("src/main/java/JoinedNames.java"));
+        String code = source.replaceAll("(?s)/\\*.*?\\*/", "").replaceAll("//[^\n]*", "");
+        words(code);
+        library(code);
+        objectsMade(code);
+        shapes();
         Check.end("FaceTest");
     }
 
@@ -84,11 +95,54 @@ public final class FaceTest {
         }
     }
 
-    private static void words() throws IOException {
-        String source = Files.readString(Path.of("src/main/java/JoinedNames.java"));
-        String code = source.replaceAll("(?s)/\\*.*?\\*/", "").replaceAll("//[^\n]*", "");
+    private static void words(String code) {
         for (String word : FORBIDDEN) {
             Check.due("'" + word + "' in the program", Pattern.compile(word).matcher(code).find() ? 1 : 0, 0);
         }
+    }
+
+    /** What the program uses of the library: a small part of what LANGUAGE.md lists. */
+    private static void library(String code) {
+        TreeSet<String> used = new TreeSet<>();
+        Matcher call = Pattern.compile("\\b([A-Z]\\w*[a-z]\\w*\\.\\w+)\\(").matcher(code);
+        while (call.find()) {
+            used.add(call.group(1));
+        }
+        Check.due("library", used.toString(), Arrays.toString(LIBRARY));
+        TreeSet<String> imports = new TreeSet<>();
+        Matcher one = Pattern.compile("(?m)^import (.*);$").matcher(code);
+        while (one.find()) {
+            imports.add(one.group(1));
+        }
+        Check.due("imports", imports.toString(), "[java.util.Arrays]");
+    }
+
+    /** Rows are made with the object and used again: fields and one constructor alone say new. */
+    private static void objectsMade(String code) {
+        for (String row : code.split("\n")) {
+            if (row.matches(".*\\bnew\\b.*")) {
+                boolean asField = row.matches("\\s+private final \\w+(\\[\\])? \\w+ = new .*");
+                boolean asState = row.trim().equals("kept[k] = new Lines();");
+                Check.due("made by no call: " + row.trim(), asField || asState ? 1 : 0, 1);
+            }
+        }
+    }
+
+    private static void shapes() {
+        for (Class<?> c : withThoseInside()) {
+            for (Method m : c.getDeclaredMethods()) {
+                Check.due("few parameters of " + m, m.getParameterCount() <= MOST_PARAMETERS ? 1 : 0, 1);
+            }
+            for (Field f : c.getDeclaredFields()) {
+                boolean fixed = !Modifier.isStatic(f.getModifiers()) || Modifier.isFinal(f.getModifiers());
+                Check.due("fixed if static: " + f, fixed ? 1 : 0, 1);
+            }
+        }
+    }
+
+    private static List<Class<?>> withThoseInside() {
+        List<Class<?>> all = new ArrayList<>(List.of(JoinedNames.class.getDeclaredClasses()));
+        all.add(JoinedNames.class);
+        return all;
     }
 }

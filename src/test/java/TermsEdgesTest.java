@@ -119,6 +119,8 @@ public final class TermsEdgesTest extends Edges {
             TermsEdgesTest::coarseLoad);
         term("8, 9", "* x = y: if that of x points to one, and that of y to one, the former of these points to the latter.",
             TermsEdgesTest::coarseStore);
+        whatItIs("8 to 10", "how joins are put off until something is pointed to, when they are drained",
+            TermsEdgesTest::coarsePutOff);
         term("8 to 10", "(So GROUPS are joined that one GROUP would else both point to.)", TermsEdgesTest::coarseJoins);
         term("8", "COARSE of a NAME: all NAMES of the GROUP its GROUP points to (none, if it points to none).",
             TermsEdgesTest::coarseOfGroup);
@@ -290,6 +292,31 @@ public final class TermsEdgesTest extends Edges {
         dueCoarse("*a=b;a=&c;b=&d;", "c", "d");
         dueCoarse("*a=b;a=&c;b=&d;c=&e;", "b", "de");
         dueCoarse("*a=a;a=&b;", "b", "b");
+    }
+
+    /** Chains of lines of which none asks for anything until the last name points: then all do. */
+    private static void coarsePutOff() {
+        String copies = "a=b;b=c;c=d;d=e;e=f;f=g;g=h;h=i;i=j;";
+        dueGroup(copies + "a=&a;", "a", "a");
+        dueCoarse(copies + "a=&a;", "b", "");
+        dueGroup(copies + "a=&a;j=&j;", "a", "aj");
+        dueCoarse(copies + "j=&j;", "a", "j");
+        for (String x : NAMES.split("")) {
+            dueCoarse(copies + "a=&a;j=&j;", x, "aj");
+            dueCoarse(copies + "a=&a;c=&c;g=&g;j=&j;", x, "acgj");
+        }
+        String loads = "a=*b;b=*c;c=*d;d=*e;e=*f;f=*g;g=*h;h=*i;i=*j;";
+        dueCoarse(loads + "a=&a;j=&i;", "a", "a");
+        dueCoarse(loads + "a=&a;j=&j;", "b", "aj");
+        dueGroup(loads + "a=&a;j=&j;", "a", "aj");
+        String stores = "*i=a;*h=i;*g=h;*f=g;";
+        dueCoarse(stores + "h=&c;g=&d;f=&e;b=&j;", "b", "j");
+        dueCoarse(stores + "h=&c;g=&d;f=&e;b=&j;", "c", "");
+        dueCoarse(stores + "h=&c;g=&d;f=&e;b=&j;i=&b;", "b", "j");
+        dueCoarse(stores + "h=&c;g=&d;f=&e;b=&j;i=&b;", "c", "b");
+        dueCoarse(stores + "h=&c;g=&d;f=&e;b=&j;i=&b;a=&a;", "b", "aj");
+        dueGroup(stores + "h=&c;g=&d;f=&e;b=&j;i=&b;a=&a;", "j", "aj");
+        dueCoarse(stores + "h=&c;g=&d;f=&e;b=&j;i=&b;a=&a;", "e", "d");
     }
 
     private static void coarseJoins() {
